@@ -1304,8 +1304,8 @@ public final class HomesQueue {
 
         int bidAsItWould(House house) {
             int added = 0;
-            int count = countLiked(house);
-            for (int k = 0; k < count; k++) {
+            int count = house.isAble() ? countLiked(house) : 0;
+            for (int k = 0; k < count && house.countBids() < rules[BIDS]; k++) {
                 Home home = liked(house, k);
                 if (home != null && whyNot(house, home) == 0) {
                     house.bids |= home.bit;
@@ -1372,6 +1372,9 @@ public final class HomesQueue {
         /** Whether one TOOK it. */
         boolean offerRound(Home home) {
             int set = biddersFor(home);
+            if (set == 0) {
+                return false;
+            }
             int turns = turnsAt(home);
             for (int nth = 1; nth <= MOST_OFFERS; nth++) {
                 House house = firstOf(set, home, turns);
@@ -1634,13 +1637,14 @@ public final class HomesQueue {
             place = NONE;
             next();
             for (int line = 0; line <= TAPE_BYTES && token != END; line++) {
-                if (!readLine(into)) {
+                if (!readLine(into) || !readSign()) {
                     return false;
                 }
             }
             return true;
         }
 
+        /** A LINE up to its SIGN. */
         private boolean readLine(State into) {
             if (token != WORD) {
                 return misplaced();
@@ -1676,7 +1680,7 @@ public final class HomesQueue {
             }
             home.ward = number;
             next();
-            return readSign();
+            return true;
         }
 
         private boolean readHouse(State into) {
@@ -1749,7 +1753,7 @@ public final class HomesQueue {
                 house.addWish(home.number);
                 next();
             }
-            return readSign();
+            return true;
         }
 
         private boolean readRule(State into) {
@@ -1767,7 +1771,7 @@ public final class HomesQueue {
             }
             into.setRule(rule, number);
             next();
-            return readSign();
+            return true;
         }
 
         private boolean readSign() {
