@@ -1999,7 +1999,7 @@ public final class HomesQueue {
             int placed = 0;
             for (int house = from; house < houseCount; house++) {
                 unseen = ~given;
-                if (place(house, 0)) {
+                if (place(this, house, 0)) {
                     placed++;
                 }
             }
@@ -2007,18 +2007,18 @@ public final class HomesQueue {
         }
 
         // Each level sees a HOME not seen before, so there are no more levels than HOMES.
-        private boolean place(int house, int depth) {
-            if (house < 0 || house >= houseCount || depth > MOST_HOMES) {
+        private static boolean place(Matching all, int house, int depth) {
+            if (house < 0 || house >= all.houseCount || depth > MOST_HOMES) {
                 return false;
             }
             for (int home = 0; home < MOST_HOMES; home++) {
                 int bit = 1 << home;
-                if ((choices[house] & unseen & bit) == 0) {
+                if ((all.choices[house] & all.unseen & bit) == 0) {
                     continue;
                 }
-                unseen &= ~bit;
-                if (holders[home] == NONE || place(holders[home], depth + 1)) {
-                    holders[home] = house;
+                all.unseen &= ~bit;
+                if (all.holders[home] == NONE || place(all, all.holders[home], depth + 1)) {
+                    all.holders[home] = house;
                     return true;
                 }
             }

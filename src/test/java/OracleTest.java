@@ -17,7 +17,7 @@ public final class OracleTest {
     }
 
     public static void main(String[] args) {
-        int runs = args.length > 0 ? Integer.parseInt(args[0]) : 1500;
+        int runs = args.length > 0 ? Integer.parseInt(args[0]) : 4000;
         long all = 0;
         for (int seed = 0; seed < runs; seed++) {
             OracleTest test = new OracleTest(seed);
