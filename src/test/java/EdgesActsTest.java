@@ -431,6 +431,30 @@ public final class EdgesActsTest {
             is(y, "undo()", y.undo(), 0);
             is(y, "REFUSE", y.rule(0), 3);
         });
+        Edges.edge(0, "ACTS: bid(), unbid(), auto(), week(), wish(), unwish(), leave(), rules(), shut(), need().", () -> {
+            HomesQueue x = FOUR.make();
+            int acts = 4;
+            Edges.Call[] all = {y -> y.bid(3, 2), y -> y.unbid(0, 1), y -> y.auto(), y -> y.week(), y -> y.wish(0, 3),
+                y -> y.unwish(0, 3), y -> y.leave(1), y -> y.rules(4, 7)};
+            for (Edges.Call act : all) {
+                Edges.due("STATUS of an act", act.on(x) == NONE ? x.status() : 0, 0);
+                acts++;
+                is(x, "ACTS", x.many(7), acts);
+            }
+            HomesQueue z = FOUR.make();
+            z.shut(2, true);
+            is(z, "shut()", z.many(7), 5);
+            z.need(0, 2);
+            is(z, "need()", z.many(7), 6);
+            z.print();
+            z.feed(1, 2, 3, 4, 5);
+            Edges.could(z);
+            is(z, "questions and print() are none", z.many(7), 6);
+            z.load(20);
+            is(z, "a load() of a FAULT is none", z.many(7), 6);
+            z.undo();
+            is(z, "undo() is none", z.many(7), 5);
+        });
         Edges.edge(0, "12 are kept", () -> {
             for (int acts : new int[] {11, 12, 13, 24, 25, 40}) {
                 HomesQueue x = new HomesQueue();

@@ -275,6 +275,14 @@ public final class EdgesCouldTest {
             is(x, "pc is the third with a BID of its own", x.would(2, 0), 2);
             is(x, "pc would TAKE b", x.would(2, 1), 1);
         });
+        Edges.edge(22, "If this WEEK ended with the BIDS there are", () -> {
+            HomesQueue x = Edges.told("home a 1 0;home b 1 0;house p 2 1 0 500;house q 1 1 0 500;");
+            is(x, "no BIDS: q does not BID as it would", x.would(0, 0), 1);
+            Edges.bid(x, 1, 0, 1);
+            is(x, "q TAKES a", x.would(0, 0), 0);
+            is(x, "and is OUT by b", x.would(0, 1), 1);
+            is(x, "the WEEK did not end", x.many(2) * 10 + x.many(4), 2);
+        });
         Edges.edge(22, "and this HOUSE's BIDS were for a HOME alone", () -> {
             // With its BID for a it would be BARRED ahead of b, or OUT.
             HomesQueue x = Edges.told("rule refuse 1;home a 1 0;home b 1 0;home c 1 0;house p 1 1 0 500 b;house q 1 1 0 500;");
@@ -339,6 +347,22 @@ public final class EdgesCouldTest {
             is(y, "x is 87", y.lot(0, 874), 1);
             is(y, "x is 0", y.lot(0, 45438), 0);
             is(y, "x is 65,536", y.lot(0, 65536), 0);
+        });
+        Edges.edge(0, "each HOUSE that could be given it (not OUT, not BARRED, it FITS, it would TAKE it) has as many"
+                + " numbers", () -> {
+            HomesQueue x = Edges.told("rule refuse 1;home a 1 0;home b 1 0;house n 1 2 0 999;house o 1 1 0 999 b;"
+                    + "house p 1 1 0 999;house q 1 1 0 990;house r 1 1 0 990;house s 1 1 0 999 b;");
+            Edges.bid(x, 1, 0);
+            Edges.bid(x, 5, 1);
+            x.leave(2);
+            x.week();
+            // a: n does not FIT, o is BARRED, p left, s is OUT; q and r have 2 numbers each, by 17 days.
+            is(x, "74 modulo 4", x.lot(0, 0), 4);
+            is(x, "149 modulo 4", x.lot(0, 1), 3);
+            is(x, "224 modulo 4", x.lot(0, 2), 3);
+            is(x, "299 modulo 4", x.lot(0, 3), 4);
+            x.wish(3, 1);
+            is(x, "q would not TAKE a", x.lot(0, 1), 4);
         });
         Edges.edge(0, "(WAITED by 7, rounded down; 1 at least); x modulo all of these falls on one", () -> {
             HomesQueue x = Edges.told(text);
@@ -568,6 +592,18 @@ public final class EdgesCouldTest {
     }
 
     private static void gifts() {
+        Edges.edge(0, "MOST: how many HOUSES that are not OUT and not BARRED", () -> {
+            // q is BARRED, r OUT; either would TAKE the HOME that is FREE and FITS it.
+            HomesQueue x = Edges.told("rule refuse 1;rule bar 1;home a 1 0;home b 1 0;house q 1 1 0 500 b;house r 1 1 0 500;");
+            is(x, "both", x.most(), 2);
+            Edges.bid(x, 0, 0);
+            x.week();
+            is(x, "r alone", x.most(), 1);
+            x.leave(1);
+            is(x, "nobody", x.most(), 0);
+            x.week();
+            is(x, "q is BARRED no more", x.most(), 1);
+        });
         Edges.edge(0, "could be given a FREE HOME that FITS and that it would TAKE, each another one, at most.", () -> {
             HomesQueue x = FOUR.make();
             is(x, "p and s", x.most(), 2);
@@ -597,6 +633,17 @@ public final class EdgesCouldTest {
                 is(x, "gift(" + i + ")", x.gift(i), i < 7 ? i + 1 : 0);
             }
         });
+        Edges.edge(0, "THE GIFT: of all ways to do so for MOST of them the first", () -> {
+            // p could have any; with a or b for p one of q, r would have none.
+            HomesQueue x = Edges.told("home a 1 0;home b 1 0;home c 1 0;house p 1 1 0 500;house q 1 1 0 500 a b;"
+                    + "house r 1 1 0 500 a b;");
+            is(x, "c, for MOST", x.gift(0), 2);
+            is(x, "a, the lesser", x.gift(1), 0);
+            is(x, "b", x.gift(2), 1);
+            x.leave(2);
+            is(x, "a", x.gift(0), 0);
+            is(x, "b", x.gift(1), 1);
+        });
         Edges.edge(0, "HOUSE by HOUSE: the lesser HOME (none behind all HOMES)", () -> {
             HomesQueue x = Edges.told("home a 1 0;home b 1 0;" + Edges.lines("house p", 3, " 1 1 0 500;"));
             is(x, "gift(0)", x.gift(0), 0);
@@ -622,6 +669,31 @@ public final class EdgesCouldTest {
     }
 
     private static void tradeRounds() {
+        Edges.edge(0, "TRADE: HOUSES that live in a HOME (also those that are OUT)", () -> {
+            HomesQueue x = Edges.told("home a 1 0;home b 1 0;house p 1 1 0 500 a b;house q 1 1 0 500 in b a;house r 1 1 0 500 b;");
+            is(x, "p lives in none, so q has nobody to trade with", x.trade(1), 1);
+            Edges.bid(x, 0, 0);
+            x.week();
+            x.unwish(0, 0);
+            is(x, "p is OUT and trades", x.trade(0) * 10 + x.trade(1), 10);
+            not(x, "r lives in none", x.trade(2), 5);
+            x.leave(1);
+            is(x, "q left: p has its own", x.trade(0), 0);
+        });
+        Edges.edge(0, "each looks at its dearest WISH that FITS it among HOMES in which one of those lives who have not"
+                + " traded yet", () -> {
+            // p: c does not FIT, d is FREE, its own is dearer than b.
+            HomesQueue x = Edges.told("home a 1 0;home b 1 0;home c 3 0;home d 1 0;house p 1 1 0 500 in a c d a b;"
+                    + "house q 1 1 0 500 in b a;house r 1 3 0 500 in c;");
+            is(x, "its own", x.trade(0), 0);
+            x.unwish(0, 0);
+            is(x, "b", x.trade(0) * 10 + x.trade(1), 10);
+            // An own HOME that is a WISH and does not FIT is no such one, and it has it still if there is none.
+            HomesQueue y = Edges.told("home a 4 0;home b 1 0;house p 1 1 0 500 in a a b;house q 1 4 0 500 in b a;");
+            is(y, "b is dearer than one that does not FIT", y.trade(0) * 10 + y.trade(1), 10);
+            y.unwish(0, 1);
+            is(y, "its own", y.trade(0) * 10 + y.trade(1), 1);
+        });
         Edges.edge(0, "or at its own, if there is none such", () -> {
             // p's WISHES: a FREE one, one that does not FIT, then none that is lived in.
             HomesQueue x = Edges.told("home a 1 0;home b 1 0;home c 3 0;house p 1 1 0 500 in a b c;house q 1 3 0 500 in c;");
@@ -678,6 +750,14 @@ public final class EdgesCouldTest {
             x.leave(3);
             not(x, "s left", x.trade(3), 5);
         });
+        Edges.edge(33, "1: circles of two or more", () -> {
+            HomesQueue x = Edges.told(Edges.lines("home ", 8, " 1 0;") + "house p 1 1 0 500 in a;house q 1 1 0 500 in b c;"
+                    + "house r 1 1 0 500 in c b;house s 1 1 0 500 in d e;house t 1 1 0 500 in e f;"
+                    + "house u 1 1 0 500 in f d;house v 1 1 0 500 in g g;");
+            is(x, "q and r; s, t and u; not p, not v", x.trades(1), 2);
+            is(x, "the greatest", x.trades(2), 3);
+            is(x, "five get another", x.trades(0), 5);
+        });
         Edges.edge(33, "2: HOUSES in the greatest circle (0 without any HOUSE that lives in one) (1)", () -> {
             HomesQueue none = Edges.told("home a 1 0;house p 1 1 0 500;");
             for (int what = 0; what < 3; what++) {
@@ -706,6 +786,32 @@ public final class EdgesCouldTest {
     }
 
     private static void longestRows() {
+        Edges.edge(0, "LONGEST: a row of moves: a FREE HOME is given to a HOUSE, the HOME it lived in to another one, and"
+                + " so on, each not OUT, not BARRED, each time a HOME that FITS and that it would TAKE", () -> {
+            String text = "rule refuse 1;rule bar 1;home a 1 0;home b 1 0;home c 1 0;home z 1 0;"
+                    + "house p 1 1 0 500 in b a;house q 1 1 0 500 in c b;house r 1 1 0 500 c;house s 1 1 0 500 z;";
+            HomesQueue x = Edges.told(text);
+            is(x, "p, q, r", x.longest(NONE, false), 3);
+            x.leave(2);
+            is(x, "r is OUT", x.longest(NONE, false), 2);
+            x.undo();
+            x.need(1, 2);
+            is(x, "b does not FIT q", x.longest(NONE, false), 1);
+            x.undo();
+            x.unwish(1, 1);
+            x.wish(1, 3);
+            is(x, "q would not TAKE b: z, then c", x.longest(0, false) * 10 + x.longest(NONE, false), 12);
+            x.undo();
+            x.undo();
+            x.shut(0, true);
+            is(x, "a is SHUT: s alone", x.longest(NONE, false), 1);
+            x.undo();
+            Edges.bid(x, 1, 0);
+            x.week();
+            is(x, "q is BARRED", x.longest(NONE, false), 1);
+            x.week();
+            is(x, "no more", x.longest(NONE, false), 3);
+        });
         Edges.edge(0, "no HOUSE twice, till one has lived in none (or nobody is given the HOME it left)", () -> {
             HomesQueue x = Edges.told("home a 1 0;home b 1 0;house p 1 1 0 500 in b a b;");
             is(x, "p is given a, and not b again", x.longest(NONE, false), 1);
@@ -717,6 +823,13 @@ public final class EdgesCouldTest {
             is(v, "n, o, p", v.longest(NONE, false), 3);
             v.leave(1);
             is(v, "nobody is given the HOME that n left", v.longest(NONE, false), 1);
+            // A row of fewer HOUSES behind one of more: nothing of the longer one is left.
+            HomesQueue fewer = Edges.told(CHAIN);
+            is(fewer, "three", fewer.longest(NONE, false), 3);
+            Edges.feed(fewer, CHAIN);
+            fewer.load(CHAIN.indexOf("house p"));
+            is(fewer, "two: nobody is given the HOME that o left", fewer.longest(NONE, false), 2);
+            not(fewer, "no third", fewer.longest(2, false), 5);
             // c, which q left, could be given to p but that p has moved.
             HomesQueue w = Edges.told("home a 1 0;home b 1 0;home c 1 0;house p 1 1 0 500 in b a c;house q 1 1 0 500 in c b;");
             is(w, "p, then q", w.longest(NONE, false), 2);
@@ -780,6 +893,17 @@ public final class EdgesCouldTest {
             HomesQueue y = Edges.told("home a 1 0;house p 4 1 0 0;house q 1 1 0 500;");
             Edges.bid(y, 1, 0);
             is(y, "from BAND NOW 3", y.gap(0, 0), 2);
+        });
+        Edges.edge(35, "to be the first by ORDER of those who BID for a HOME now and itself", () -> {
+            HomesQueue x = Edges.told("home a 1 0;home b 1 0;house p 3 1 0 500;house q 1 1 0 500;house r 2 1 0 500;");
+            Edges.bid(x, 1, 1);
+            is(x, "q does not BID for a", x.gap(0, 0), 0);
+            Edges.bid(x, 2, 0);
+            is(x, "r does", x.gap(0, 0), 1);
+            Edges.bid(x, 0, 0);
+            is(x, "with a BID of its own", x.gap(0, 0), 1);
+            is(x, "r itself", x.gap(2, 0), 0);
+            is(x, "q, without a BID for it", x.gap(1, 0), 0);
         });
         Edges.edge(35, "(2; 5: it is OUT, BARRED, it does not FIT, or it would not be with BAND NOW 1)", () -> {
             noSuch("gap()", (x, house, home) -> x.gap(house, home));

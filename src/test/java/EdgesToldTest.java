@@ -567,6 +567,27 @@ public final class EdgesToldTest {
     // ---- what is told
 
     private static void counts() {
+        Edges.edge(6, "What 0: HOMES, 1: HOUSES, 2: the WEEK, 3: LETS, 4: BIDS", () -> {
+            HomesQueue x = Edges.told("rule bids 3;" + Edges.lines("home ", 10, " 1 0;")
+                    + Edges.lines("house p", 8, " 1 1 0 500;"));
+            is(x, "ten HOMES", x.many(0), 10);
+            is(x, "eight HOUSES", x.many(1), 8);
+            is(x, "no LETS", x.many(3), 0);
+            is(x, "no BIDS", x.many(4), 0);
+            x.auto();
+            is(x, "three BIDS each", x.many(4), 24);
+            x.week();
+            is(x, "three LETS", x.many(3), 3);
+            is(x, "BIDS are gone", x.many(4), 0);
+            is(x, "WEEK 1", x.many(2), 1);
+            is(x, "HOMES that are lived in count", x.many(0), 10);
+            is(x, "HOUSES that are OUT count", x.many(1), 8);
+            x.auto();
+            x.week();
+            x.auto();
+            x.week();
+            is(x, "all eight LETS", x.many(3), 8);
+        });
         Edges.edge(6, "9: OFFERS of the latest WEEK that ended (0 ahead of any)", () -> {
             HomesQueue x = THREE.make();
             is(x, "ahead of any", x.many(9), 0);
@@ -885,6 +906,21 @@ public final class EdgesToldTest {
             is(y, "eight LETS", y.week(), 8);
             is(y, "the last", y.let(7, 0) * 10 + y.let(7, 1), 77);
             not(y, "one more", y.let(8, 0), 2);
+        });
+        Edges.edge(15, "4: 1 by a LOCAL TURN, else 0, 5: 1 by a QUOTA TURN", () -> {
+            HomesQueue x = Edges.told("rule local 2;rule quota 60;home a 1 1;home b 1 1;home c 1 1;home d 1 2;home e 1 2;"
+                    + "house p 1 1 1 500;house q 1 1 1 500 in e;house r 1 1 0 500;house s 1 1 2 500;");
+            for (int i = 0; i < 4; i++) {
+                Edges.bid(x, i, i);
+            }
+            is(x, "four LETS", x.week(), 4);
+            // Of WARD 1 the second one is at a LOCAL TURN; behind 0 of 1, 1 of 2, 1 of 3 it is a QUOTA TURN.
+            int[] local = {0, 1, 0, 0};
+            int[] quota = {0, 1, 1, 1};
+            for (int k = 0; k < 4; k++) {
+                is(x, "let(" + k + ", 4)", x.let(k, 4), local[k]);
+                is(x, "let(" + k + ", 5)", x.let(k, 5), quota[k]);
+            }
         });
         Edges.edge(15, "6: the OFFER (1 to 3) by which, 7: BAND NOW of the HOUSE then", () -> {
             for (int refusing = 0; refusing < 3; refusing++) {
